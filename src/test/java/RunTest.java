@@ -1,0 +1,245 @@
+/** Promises 6, 7 and 8: what instructions do, how they are counted, and how they trap, by both engines. */
+public final class RunTest {
+    private static final int MIN = Integer.MIN_VALUE;
+    private static final int MAX = Integer.MAX_VALUE;
+    private static final int UNREACHABLE = 2;
+    private static final int ZERO = 3;
+    private static final int OVERFLOW = 4;
+    private static final int CALLS = 6;
+
+    public static void main(String[] args) {
+        unary();
+        binary();
+        divisions();
+        variables();
+        control();
+        tables();
+        calls();
+        fuel();
+        fuelOfTraps();
+        longRuns();
+        Check.finish();
+    }
+
+    private static void one(int op, int a, int want) {
+        Check.returns(op + " of " + a, Mod.single(1, 1, 0, Mod.b(32, 0, op)), want, a);
+    }
+
+    private static void two(int op, int a, int b, int want) {
+        Check.returns(op + " of " + a + ", " + b, Mod.single(2, 1, 0, Mod.b(32, 0, 32, 1, op)), want, a, b);
+    }
+
+    private static void unary() {
+        one(69, 0, 1);
+        one(69, MIN, 0);
+        one(103, 0, 32);
+        one(103, 1, 31);
+        one(103, -1, 0);
+        one(104, 0, 32);
+        one(104, MIN, 31);
+        one(104, 5, 0);
+        one(105, -1, 32);
+        one(105, 0, 0);
+        one(105, 0x70F0, 7);
+    }
+
+    private static void binary() {
+        int[][] pairs = {{0, 0}, {1, 2}, {2, 1}, {-1, 1}, {1, -1}, {MIN, MAX}, {MAX, MIN}, {-1, -1}};
+        for (int[] pair : pairs) {
+            int a = pair[0];
+            int b = pair[1];
+            int unsigned = Integer.compareUnsigned(a, b);
+            two(70, a, b, a == b ? 1 : 0);
+            two(71, a, b, a != b ? 1 : 0);
+            two(72, a, b, a < b ? 1 : 0);
+            two(73, a, b, unsigned < 0 ? 1 : 0);
+            two(74, a, b, a > b ? 1 : 0);
+            two(75, a, b, unsigned > 0 ? 1 : 0);
+            two(76, a, b, a <= b ? 1 : 0);
+            two(77, a, b, unsigned <= 0 ? 1 : 0);
+            two(78, a, b, a >= b ? 1 : 0);
+            two(79, a, b, unsigned >= 0 ? 1 : 0);
+            two(106, a, b, a + b);
+            two(107, a, b, a - b);
+            two(108, a, b, a * b);
+        }
+        two(108, 123456789, 987654321, 123456789 * 987654321);
+        two(113, 12, 10, 8);
+        two(114, 12, 10, 14);
+        two(115, 12, 10, 6);
+        two(116, 1, 31, MIN);
+        two(116, 3, 33, 6);
+        two(117, MIN, 31, -1);
+        two(117, -8, 33, -4);
+        two(118, MIN, 31, 1);
+        two(118, -8, 32, -8);
+        two(119, 0x80000001, 1, 3);
+        two(119, 5, 32, 5);
+        two(119, 0x12345678, 36, 0x23456781);
+        two(120, 3, 1, 0x80000001);
+        two(120, 5, 0, 5);
+        two(120, 0x12345678, -4, 0x23456781);
+    }
+
+    private static void traps(int op, int a, int b, int trap) {
+        Check.ends(op + " of " + a + ", " + b, Mod.single(2, 1, 0, Mod.b(32, 0, 32, 1, op)), trap, 0, a, b);
+    }
+
+    private static void divisions() {
+        two(109, 7, -2, -3);
+        two(109, MIN, 1, MIN);
+        two(109, MIN, 2, MIN / 2);
+        two(110, 7, 2, 3);
+        two(110, MIN, -1, 0);
+        two(110, -1, 2, MAX);
+        two(110, MIN, MIN, 1);
+        two(111, -7, 2, -1);
+        two(111, 7, -2, 1);
+        two(111, MIN, -1, 0);
+        two(112, -1, 10, 5);
+        two(112, MIN, -1, MIN);
+        for (int op = 109; op <= 112; op++) {
+            traps(op, 5, 0, ZERO);
+            traps(op, 0, 0, ZERO);
+        }
+        traps(109, MIN, -1, OVERFLOW);
+    }
+
+    private static void variables() {
+        Check.returns("a local is 0 at first", Mod.single(0, 1, 2, Mod.b(32, 1)), 0);
+        Check.returns("local.set", Mod.single(0, 1, 2, Mod.b(65, 9, 33, 1, 32, 1, 32, 0, 107)), 9);
+        Check.returns("local.tee", Mod.single(1, 1, 1, Mod.b(65, 9, 34, 1, 32, 1, 106)), 18, 1);
+        Check.returns("arguments in their order", Mod.single(4, 1, 0,
+            Mod.b(32, 0, 65, 10, 108, 32, 1, 106, 65, 10, 108, 32, 2, 106, 65, 10, 108, 32, 3, 106)), 1234, 1, 2, 3, 4);
+        Check.returns("a global", Mod.single(0, 1, 0, Mod.b(35, 0)), 5);
+        Check.returns("select 1", Mod.single(0, 1, 0, Mod.b(65, 7, 65, 8, 65, 1, 27)), 7);
+        Check.returns("select 0", Mod.single(0, 1, 0, Mod.b(65, 7, 65, 8, 65, 0, 27)), 8);
+        Check.returns("drop", Mod.single(0, 1, 0, Mod.b(65, 7, 65, 8, 26)), 7);
+        WasmMachine machine = Check.ready("a global goes on", Mod.single(0, 1, 1,
+            Mod.b(35, 0, 65, 1, 106, 36, 0, 32, 0, 65, 1, 106, 34, 0, 26, 35, 0)));
+        for (int i = 6; i < 10; i++) {
+            Check.start("a global goes on", machine, 0, i & 1);
+            Check.due("a global goes on: run", machine.run(50), 1);
+            Check.due("a global goes on: result", machine.result(), i);
+        }
+    }
+
+    private static void control() {
+        int[] choose = Mod.single(1, 1, 0, Mod.b(32, 0, 4, 127, 65, 1, 5, 65, 2, 11));
+        Check.returns("if", choose, 1, -5);
+        Check.returns("else", choose, 2, 0);
+        int[] without = Mod.single(1, 1, 1, Mod.b(32, 0, 4, 64, 65, 3, 33, 1, 11, 32, 1));
+        Check.returns("if without else, taken", without, 3, 1);
+        Check.returns("if without else", without, 0, 0);
+        Check.returns("br leaves what lies below", Mod.single(0, 1, 0,
+            Mod.b(65, 1, 2, 127, 65, 20, 65, 30, 65, 40, 12, 0, 11, 106)), 41);
+        Check.returns("br_if leaves the result", Mod.single(1, 1, 0,
+            Mod.b(2, 127, 65, 20, 32, 0, 13, 0, 65, 5, 106, 11)), 25, 0);
+        Check.returns("br_if leads away with the result", Mod.single(1, 1, 0,
+            Mod.b(2, 127, 65, 9, 65, 20, 32, 0, 13, 0, 106, 11)), 20, 1);
+        Check.returns("br over three", Mod.single(0, 1, 0,
+            Mod.b(65, 1, 2, 127, 65, 2, 3, 64, 65, 3, 65, 0, 4, 64, 5, 65, 7, 12, 2, 11, 26, 11, 11, 106)), 8);
+        Check.returns("br to the body", Mod.single(0, 1, 0, Mod.b(65, 1, 2, 64, 65, 6, 12, 1, 11)), 6);
+        Check.returns("return from within", Mod.single(0, 1, 0, Mod.b(65, 1, 2, 64, 3, 64, 65, 6, 15, 11, 11)), 6);
+        Check.returns("a sum by a loop", Mod.single(1, 1, 1, Mod.b(3, 127, 32, 0, 32, 1, 106, 33, 1, 32, 0, 65, 1, 107,
+            34, 0, 13, 0, 32, 1, 11)), 5050, 100);
+        Check.returns("a loop drops operands when it begins again", Mod.single(1, 1, 0,
+            Mod.b(65, 9, 3, 127, 65, 1, 65, 2, 32, 0, 65, 1, 107, 34, 0, 13, 0, 106, 11, 106)), 12, 40);
+        Check.returns("a loop's end lets through", Mod.single(0, 1, 0, Mod.b(3, 64, 1, 11, 65, 4)), 4);
+        Check.returns("else at the end of an else", Mod.single(2, 1, 0, Mod.b(32, 0, 4, 127, 32, 1, 4, 127, 65, 1, 5, 65, 2,
+            11, 5, 32, 1, 4, 127, 65, 3, 5, 65, 4, 11, 11)), 2, 1, 0);
+        Check.ends("unreachable", Mod.single(0, 1, 0, Mod.b(0)), UNREACHABLE, 0);
+    }
+
+    private static void tables() {
+        int[] module = Mod.single(1, 1, 0, Mod.b(2, 64, 2, 64, 2, 64, 65, 8, 32, 0, 14, 3, 1, 0, 2, 1, 11, 65, 10, 15, 11,
+            65, 20, 15, 11, 65, 30));
+        Check.returns("place 0", module, 20, 0);
+        Check.returns("place 1", module, 10, 1);
+        Check.returns("place 2", module, 30, 2);
+        Check.returns("the last place", module, 20, 3);
+        Check.returns("behind the last place", module, 20, 4);
+        Check.returns("a place without sign", module, 20, -1);
+        Check.returns("a place without sign", module, 20, MIN);
+        int[] body = Mod.single(1, 1, 0, Mod.b(65, 3, 2, 127, 65, 7, 32, 0, 14, 1, 0, 1, 11, 106));
+        Check.returns("to a block with a result", body, 10, 0);
+        Check.returns("to the body with a result", body, 7, 1);
+        Check.returns("no places", Mod.single(1, 1, 0, Mod.b(65, 7, 32, 0, 14, 0, 0)), 7, 5);
+    }
+
+    private static void calls() {
+        int[] down = Mod.module(Mod.types(Mod.type(1, 1)), Mod.functions(0), Mod.globals(Mod.global(1, 0)),
+            Mod.code(Mod.body(1, Mod.b(35, 0, 65, 1, 106, 36, 0, 32, 0, 69, 4, 127, 35, 0, 5, 65, 50, 32, 0, 65, 1, 107, 16, 0,
+                106, 32, 1, 106, 11))));
+        Check.returns("one call", down, 1, 0);
+        Check.returns("eight calls", down, 358, 7);
+        Check.ends("nine calls", down, CALLS, 0, 8);
+        int[] several = Mod.module(Mod.types(Mod.type(2, 1), Mod.type(0, 1), Mod.type(0, 0)), Mod.functions(1, 0, 2),
+            Mod.code(Mod.body(0, Mod.b(65, 50, 65, 8, 65, 3, 16, 1, 16, 2, 107)),
+                Mod.body(1, Mod.b(65, 1, 32, 0, 32, 1, 107, 34, 2, 15)), Mod.body(0)));
+        Check.returns("calls of others", several, 45);
+        Check.costs("calls of others", several, 1, 12);
+        int[] empty = Mod.module(Mod.types(Mod.type(0, 0)), Mod.functions(0, 0),
+            Mod.code(Mod.body(0, Mod.b(16, 1)), Mod.body(0)));
+        Check.costs("a call of nothing", empty, 1, 1);
+        int[] twice = Mod.module(Mod.types(Mod.type(0, 1)), Mod.functions(0, 0), Mod.code(
+            Mod.body(1, Mod.b(2, 64, 65, 1, 4, 64, 16, 1, 33, 0, 12, 1, 11, 0, 11, 32, 0, 16, 1, 106)),
+            Mod.body(2, Mod.b(2, 127, 32, 1, 65, 21, 34, 1, 106, 11))));
+        Check.returns("locals are 0 in each call, and blocks go on behind it", twice, 42);
+        int[] trapInside = Mod.module(Mod.types(Mod.type(0, 1)), Mod.functions(0, 0),
+            Mod.code(Mod.body(0, Mod.b(16, 1)), Mod.body(0, Mod.b(65, 7, 0))));
+        Check.ends("a trap in a call ends all", trapInside, UNREACHABLE, 0);
+        int[] endless = Mod.module(Mod.types(Mod.type(0, 0)), Mod.functions(0), Mod.code(Mod.body(0, Mod.b(16, 0))));
+        Check.costs("calls without end", endless, CALLS, 8);
+    }
+
+    private static void fuel() {
+        Check.costs("nothing", Mod.single(0, 0, 0), 1, 0);
+        Check.costs("nop", Mod.single(0, 0, 0, Mod.b(1)), 1, 1);
+        Check.costs("a block of nothing", Mod.single(0, 0, 0, Mod.b(2, 64, 11)), 1, 1);
+        Check.costs("blocks of nothing", Mod.single(0, 0, 0, Mod.b(2, 64, 3, 64, 2, 64, 11, 11, 11)), 1, 3);
+        Check.costs("if of nothing", Mod.single(1, 0, 0, Mod.b(32, 0, 4, 64, 5, 11)), 1, 2, 1);
+        Check.costs("else of nothing", Mod.single(1, 0, 0, Mod.b(32, 0, 4, 64, 5, 11)), 1, 2, 0);
+        int[] choose = Mod.single(1, 1, 0, Mod.b(32, 0, 4, 127, 1, 1, 65, 1, 5, 65, 2, 11));
+        Check.costs("if", choose, 1, 5, 1);
+        Check.costs("else", choose, 1, 3, 0);
+        Check.costs("a value", Mod.single(0, 1, 0, Mod.b(65, 1)), 1, 1);
+        Check.costs("return", Mod.single(0, 1, 0, Mod.b(65, 1, 15)), 1, 2);
+        Check.costs("br_table counts 1", Mod.single(0, 0, 0, Mod.b(2, 64, 65, 1, 14, 2, 0, 0, 1, 11)), 1, 3);
+        Check.costs("a loop counts once", Mod.single(1, 0, 0,
+            Mod.b(3, 64, 32, 0, 65, 1, 107, 34, 0, 13, 0, 11)), 1, 1 + 5 * 7, 7);
+        Check.costs("else in else, at an end of both", Mod.single(1, 0, 0,
+            Mod.b(32, 0, 4, 64, 32, 0, 4, 64, 1, 5, 1, 11, 5, 11)), 1, 5, 1);
+    }
+
+    private static void fuelOfTraps() {
+        Check.costs("unreachable", Mod.single(0, 0, 0, Mod.b(0)), UNREACHABLE, 1);
+        Check.costs("a division", Mod.single(0, 1, 0, Mod.b(65, 1, 65, 0, 109)), ZERO, 3);
+        WasmMachine machine = Check.ready("behind a trap", Mod.single(0, 0, 0, Mod.b(65, 77, 36, 0, 0)));
+        Check.start("behind a trap", machine, 0, 0);
+        Check.due("behind a trap: run(2)", machine.run(2), 0);
+        Check.due("behind a trap: run(0)", machine.run(0), 0);
+        Check.due("behind a trap: run(1)", machine.run(1), UNREACHABLE);
+        Check.due("behind a trap: run", machine.run(1), -1);
+        Check.due("behind a trap: arg", machine.arg(1), true);
+    }
+
+    private static void longRuns() {
+        int[] endless = Mod.single(0, 0, 0, Mod.b(3, 64, 12, 0, 11));
+        int[] counting = Mod.single(1, 0, 0, Mod.b(3, 64, 32, 0, 65, 1, 107, 34, 0, 13, 0, 11));
+        for (int engine = 0; engine < 2; engine++) {
+            WasmMachine machine = Check.ready("endless", endless);
+            Check.start("endless", machine, 0, engine);
+            for (int i = 0; i < 5; i++) {
+                Check.due("endless: run", machine.run(MAX), 0);
+            }
+            machine = Check.ready("counting", counting);
+            Check.start("counting", machine, 0, engine, 20000);
+            Check.due("counting: more than 100000 are 100000", machine.run(100001), 0);
+            Check.due("counting: one is left", machine.run(1), 1);
+            Check.start("counting", machine, 0, engine, 20000);
+            Check.due("counting: 99999", machine.run(99999), 0);
+            Check.due("counting: two are left", machine.run(2), 1);
+        }
+    }
+}
