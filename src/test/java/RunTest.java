@@ -13,6 +13,7 @@ public final class RunTest {
         divisions();
         variables();
         control();
+        deepest();
         tables();
         calls();
         fuel();
@@ -151,6 +152,21 @@ public final class RunTest {
         Check.ends("unreachable", Mod.single(0, 1, 0, Mod.b(0)), UNREACHABLE, 0);
     }
 
+    /** In each of eight calls twelve locals, ten blocks in one another and sixteen operands: all room is in use at once. */
+    private static void deepest() {
+        int[] module = Mod.module(Mod.types(Mod.type(1, 1)), Mod.functions(0), Mod.code(Mod.body(11,
+            Mod.repeat(9, 2, 127, 65, 1),
+            Mod.b(32, 0, 34, 11, 4, 127), Mod.repeat(4, 65, 2), Mod.b(65, 10, 32, 11, 65, 1, 107, 16, 0, 106, 12, 9),
+            Mod.b(5, 65, 7, 12, 8, 11),
+            Mod.repeat(9, 106, 11), Mod.b(65, 1, 106, 32, 0, 32, 11, 107, 106))));
+        Check.returns("one deep call", module, 9, 0);
+        Check.returns("two deep calls", module, 20, 1);
+        Check.returns("eight deep calls", module, 86, 7);
+        Check.ends("nine deep calls", module, CALLS, 0, 8);
+        int[] results = Mod.cat(Mod.repeat(10, 2, 127), Mod.b(65, 5, 65, 6, 12, 0), Mod.repeat(10, 11));
+        Check.returns("results of ten blocks", Mod.single(0, 1, 0, Mod.con(3), results, Mod.b(106)), 9);
+    }
+
     private static void tables() {
         int[] module = Mod.single(1, 1, 0, Mod.b(2, 64, 2, 64, 2, 64, 65, 8, 32, 0, 14, 3, 1, 0, 2, 1, 11, 65, 10, 15, 11,
             65, 20, 15, 11, 65, 30));
@@ -164,6 +180,10 @@ public final class RunTest {
         int[] body = Mod.single(1, 1, 0, Mod.b(65, 3, 2, 127, 65, 7, 32, 0, 14, 1, 0, 1, 11, 106));
         Check.returns("to a block with a result", body, 10, 0);
         Check.returns("to the body with a result", body, 7, 1);
+        int[] eight = Mod.single(1, 1, 0, Mod.b(2, 64, 2, 64, 32, 0, 14, 8), Mod.repeat(8, 0),
+            Mod.b(1, 11, 65, 10, 15, 11, 65, 20));
+        Check.returns("the eighth place", eight, 10, 7);
+        Check.returns("behind eight places", eight, 20, 8);
         Check.returns("no places", Mod.single(1, 1, 0, Mod.b(65, 7, 32, 0, 14, 0, 0)), 7, 5);
     }
 
@@ -194,6 +214,7 @@ public final class RunTest {
     }
 
     private static void fuel() {
+        Check.ends("nothing returned", Mod.single(1, 0, 0), 1, 0, 9);
         Check.costs("nothing", Mod.single(0, 0, 0), 1, 0);
         Check.costs("nop", Mod.single(0, 0, 0, Mod.b(1)), 1, 1);
         Check.costs("a block of nothing", Mod.single(0, 0, 0, Mod.b(2, 64, 11)), 1, 1);
