@@ -164,7 +164,7 @@ public final class WasmMachine {
             return -1;
         }
         Engine engine = activeEngine();
-        int outcome = engine.go(Math.min(fuel, MOST_FUEL));
+        int outcome = engine.go(fuel);
         if (outcome != STILL_RUNS) {
             active = NO_ENGINE;
             returned = outcome == DONE ? engine.value : 0;
@@ -498,21 +498,13 @@ public final class WasmMachine {
         }
 
         private static int divided(int op, int a, int b) {
-            long c = a & WITHOUT_SIGN;
-            long d = b & WITHOUT_SIGN;
-            if (b == 0 || d == 0) {
+            boolean withSign = op == DIV_S || op == REM_S;
+            long dividend = withSign ? a : a & WITHOUT_SIGN;
+            long divisor = withSign ? b : b & WITHOUT_SIGN;
+            if (divisor == 0) {
                 return 0;
             }
-            switch (op) {
-                case DIV_S:
-                    return a / b;
-                case DIV_U:
-                    return (int) (c / d);
-                case REM_S:
-                    return a % b;
-                default:
-                    return (int) (c % d);
-            }
+            return (int) (op == DIV_S || op == DIV_U ? dividend / divisor : dividend % divisor);
         }
     }
 
@@ -555,7 +547,7 @@ public final class WasmMachine {
 
         /** How many results go to the label of a block: to a loop's none, it is at its beginning. */
         int labelResults(int block) {
-            return code.get(block, OP) == Op.LOOP ? 0 : blockResults(block);
+            return code.get(block, OP) != Op.LOOP && code.get(block, FIRST) == I32 ? 1 : 0;
         }
 
         int blockResults(int block) {
@@ -598,7 +590,7 @@ public final class WasmMachine {
         private final Contents contents;
         private final int[] bytes = new int[MOST_BYTES];
         /** The blocks that are open in a body; the body itself is the first of them. */
-        private final Row open = new Row(MOST_BLOCKS + 2);
+        private final Row open = new Row(MOST_BLOCKS + 1);
         private int openCount;
         private int fed;
         private int place;
@@ -1561,6 +1553,7 @@ public final class WasmMachine {
             enter(function);
         }
 
+        /** Does at most so many instructions; how it stands then. */
         int go(int fuel) {
             passAll();
             for (int left = Math.min(fuel, MOST_FUEL); left > 0 && outcome == STILL_RUNS; left--) {
@@ -1618,7 +1611,7 @@ public final class WasmMachine {
 
     /** Runs instructions as they were read, with a stack of operands and one of labels. */
     private static final class StackEngine extends Engine {
-        private static final int LABELS = MOST_BLOCKS + 1;
+        private static final int LABELS = MOST_BLOCKS;
         private static final int BLOCK_ROW = 0;
         private static final int BLOCK_TOP = 1;
 
@@ -1692,7 +1685,11 @@ public final class WasmMachine {
                     branch(operand);
                     break;
                 case Op.BR_IF:
-                    branchIf(operand);
+                    if (pop() != 0) {
+                        branch(operand);
+                    } else {
+                        next++;
+                    }
                     break;
                 case Op.BR_TABLE:
                     branch(contents.labelAt(next, pop()));
@@ -1720,14 +1717,6 @@ public final class WasmMachine {
             labels.set(label, BLOCK_TOP, top);
             depth++;
             next = from;
-        }
-
-        private void branchIf(int label) {
-            if (pop() != 0) {
-                branch(label);
-            } else {
-                next++;
-            }
         }
 
         private void branch(int label) {
@@ -1816,7 +1805,11 @@ public final class WasmMachine {
                     branch(next, top);
                     break;
                 case Op.BR_IF:
-                    branchIf(highest, top - 1);
+                    if (highest != 0) {
+                        branch(next, top - 1);
+                    } else {
+                        next++;
+                    }
                     break;
                 case Op.BR_TABLE:
                     branchByTable(highest);
@@ -1830,14 +1823,6 @@ public final class WasmMachine {
                 default:
                     next++;
                     break;
-            }
-        }
-
-        private void branchIf(int condition, int top) {
-            if (condition != 0) {
-                branch(next, top);
-            } else {
-                next++;
             }
         }
 
