@@ -2,15 +2,23 @@
 final class Check {
     private static int asked = 0;
     private static int wrong = 0;
+    private static int sentences = 0;
+    private static String words = "";
 
     private Check() {
+    }
+
+    /** The words of the document that the answers from here on are due by: a wrong one is told with them. */
+    static void says(String sentence) {
+        sentences++;
+        words = " [" + sentence + "]";
     }
 
     static void due(String what, long got, long want) {
         asked++;
         if (got != want) {
             wrong++;
-            System.out.println(what + " answered " + got + ", due is " + want);
+            System.out.println(what + " answered " + got + ", due is " + want + words);
         }
     }
 
@@ -19,7 +27,7 @@ final class Check {
     }
 
     static void finish() {
-        System.out.println(asked + " answers, " + wrong + " not as due");
+        System.out.println(asked + " answers by " + sentences + " sentences, " + wrong + " not as due");
         if (wrong != 0) {
             System.exit(1);
         }
@@ -27,12 +35,16 @@ final class Check {
 
     static WasmMachine fed(int... bytes) {
         WasmMachine machine = new WasmMachine();
+        feed(machine, bytes);
+        return machine;
+    }
+
+    static void feed(WasmMachine machine, int... bytes) {
         for (int next : bytes) {
             if (!machine.feed(next)) {
                 due("feed(" + next + ")", false, true);
             }
         }
-        return machine;
     }
 
     static void loads(String what, int want, int[] module) {

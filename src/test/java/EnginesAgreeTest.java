@@ -50,8 +50,9 @@ public final class EnginesAgreeTest {
         Check.start(what, stack, function, 0, argument);
         Check.start(what, registers, function, 1, argument);
         int outcome = 0;
-        for (int i = 0; i < 100 && outcome == 0; i++) {
-            int fuel = i == 0 ? 0 : i < 60 ? 1 : chance.nextInt(200);
+        // An object is used for at most 512 calls, 240 of them to feed it.
+        for (int i = 0; i < 80 && outcome == 0; i++) {
+            int fuel = i == 0 ? 0 : i < 60 ? 1 : chance.nextInt(300);
             outcome = stack.run(fuel);
             Check.due(what + ", run " + i, registers.run(fuel), outcome);
             Check.due(what + ", result " + i, registers.result(), stack.result());

@@ -1,24 +1,20 @@
-/** Promises 6, 7 and 8: what instructions do, how they are counted, and how they trap, by both engines. */
+/** Promise 7, RUNNING: what instructions do, by both engines (FuelTest counts them, TrapsTest has those that trap). */
 public final class RunTest {
     private static final int MIN = Integer.MIN_VALUE;
     private static final int MAX = Integer.MAX_VALUE;
     private static final int UNREACHABLE = 2;
-    private static final int ZERO = 3;
-    private static final int OVERFLOW = 4;
     private static final int CALLS = 6;
 
     public static void main(String[] args) {
         unary();
         binary();
         divisions();
+        locals();
         variables();
         control();
         deepest();
         tables();
         calls();
-        fuel();
-        fuelOfTraps();
-        longRuns();
         Check.finish();
     }
 
@@ -31,6 +27,7 @@ public final class RunTest {
     }
 
     private static void unary() {
+        Check.says("as the specification has it");
         one(69, 0, 1);
         one(69, MIN, 0);
         one(103, 0, 32);
@@ -45,6 +42,7 @@ public final class RunTest {
     }
 
     private static void binary() {
+        Check.says("values are i32 (127)");
         int[][] pairs = {{0, 0}, {1, 2}, {2, 1}, {-1, 1}, {1, -1}, {MIN, MAX}, {MAX, MIN}, {-1, -1}};
         for (int[] pair : pairs) {
             int a = pair[0];
@@ -82,11 +80,8 @@ public final class RunTest {
         two(120, 0x12345678, -4, 0x23456781);
     }
 
-    private static void traps(int op, int a, int b, int trap) {
-        Check.ends(op + " of " + a + ", " + b, Mod.single(2, 1, 0, Mod.b(32, 0, 32, 1, op)), trap, 0, a, b);
-    }
-
     private static void divisions() {
+        Check.says("as the specification has it");
         two(109, 7, -2, -3);
         two(109, MIN, 1, MIN);
         two(109, MIN, 2, MIN / 2);
@@ -99,15 +94,39 @@ public final class RunTest {
         two(111, MIN, -1, 0);
         two(112, -1, 10, 5);
         two(112, MIN, -1, MIN);
-        for (int op = 109; op <= 112; op++) {
-            traps(op, 5, 0, ZERO);
-            traps(op, 0, 0, ZERO);
+    }
+
+    private static void locals() {
+        Check.says("A function runs with arguments, its other locals 0");
+        int[] counts = {0, 1, 2, 3, 4};
+        int[] arguments = {7, -8, Integer.MAX_VALUE, Integer.MIN_VALUE};
+        for (int count : counts) {
+            int[] given = java.util.Arrays.copyOf(arguments, count);
+            for (int local = 0; local < 12; local++) {
+                Check.returns("local " + local + " of " + count, Mod.single(count, 1, 12 - count, Mod.b(32, local)),
+                    local < count ? arguments[local] : 0, given);
+            }
         }
-        traps(109, MIN, -1, OVERFLOW);
+        int[] fill = Mod.single(1, 1, 3, Mod.b(32, 1, 32, 2, 114, 32, 3, 114, 65, 9, 34, 1, 34, 2, 33, 3, 32, 0, 33, 0));
+        for (int engine = 0; engine < 2; engine++) {
+            WasmMachine machine = Check.ready("locals of an earlier run", fill);
+            for (int i = 0; i < 4; i++) {
+                Check.start("locals of an earlier run", machine, 0, i < 2 ? engine : 1 - engine, 5);
+                Check.due("locals of an earlier run: run", machine.run(50), 1);
+                Check.due("they are 0 again", machine.result(), 0);
+            }
+        }
     }
 
     private static void variables() {
+        Check.says("A module that was loaded has its memory, data and globals as they say.");
         Check.returns("a local is 0 at first", Mod.single(0, 1, 2, Mod.b(32, 1)), 0);
+        int[] globals = Mod.globals(Mod.global(0, 0), Mod.global(1, -1), Mod.global(0, MIN), Mod.global(1, MAX));
+        int[] values = {0, -1, MIN, MAX};
+        for (int i = 0; i < 4; i++) {
+            Check.returns("global " + i, Mod.module(Mod.types(Mod.type(0, 1)), Mod.functions(0), globals,
+                Mod.code(Mod.body(0, Mod.b(35, i)))), values[i]);
+        }
         Check.returns("local.set", Mod.single(0, 1, 2, Mod.b(65, 9, 33, 1, 32, 1, 32, 0, 107)), 9);
         Check.returns("local.tee", Mod.single(1, 1, 1, Mod.b(65, 9, 34, 1, 32, 1, 106)), 18, 1);
         Check.returns("arguments in their order", Mod.single(4, 1, 0,
@@ -126,6 +145,7 @@ public final class RunTest {
     }
 
     private static void control() {
+        Check.says("A function runs with arguments, its other locals 0, as the specification has it");
         int[] choose = Mod.single(1, 1, 0, Mod.b(32, 0, 4, 127, 65, 1, 5, 65, 2, 11));
         Check.returns("if", choose, 1, -5);
         Check.returns("else", choose, 2, 0);
@@ -154,6 +174,7 @@ public final class RunTest {
 
     /** In each of eight calls twelve locals, ten blocks in one another and sixteen operands: all room is in use at once. */
     private static void deepest() {
+        Check.says("both do the same, instruction for instruction");
         int[] module = Mod.module(Mod.types(Mod.type(1, 1)), Mod.functions(0), Mod.code(Mod.body(11,
             Mod.repeat(9, 2, 127, 65, 1),
             Mod.b(32, 0, 34, 11, 4, 127), Mod.repeat(4, 65, 2), Mod.b(65, 10, 32, 11, 65, 1, 107, 16, 0, 106, 12, 9),
@@ -168,6 +189,7 @@ public final class RunTest {
     }
 
     private static void tables() {
+        Check.says("8 places in a br_table (without the last one)");
         int[] module = Mod.single(1, 1, 0, Mod.b(2, 64, 2, 64, 2, 64, 65, 8, 32, 0, 14, 3, 1, 0, 2, 1, 11, 65, 10, 15, 11,
             65, 20, 15, 11, 65, 30));
         Check.returns("place 0", module, 20, 0);
@@ -188,6 +210,7 @@ public final class RunTest {
     }
 
     private static void calls() {
+        Check.says("A function runs with arguments, its other locals 0, as the specification has it");
         int[] down = Mod.module(Mod.types(Mod.type(1, 1)), Mod.functions(0), Mod.globals(Mod.global(1, 0)),
             Mod.code(Mod.body(1, Mod.b(35, 0, 65, 1, 106, 36, 0, 32, 0, 69, 4, 127, 35, 0, 5, 65, 50, 32, 0, 65, 1, 107, 16, 0,
                 106, 32, 1, 106, 11))));
@@ -198,10 +221,6 @@ public final class RunTest {
             Mod.code(Mod.body(0, Mod.b(65, 50, 65, 8, 65, 3, 16, 1, 16, 2, 107)),
                 Mod.body(1, Mod.b(65, 1, 32, 0, 32, 1, 107, 34, 2, 15)), Mod.body(0)));
         Check.returns("calls of others", several, 45);
-        Check.costs("calls of others", several, 1, 12);
-        int[] empty = Mod.module(Mod.types(Mod.type(0, 0)), Mod.functions(0, 0),
-            Mod.code(Mod.body(0, Mod.b(16, 1)), Mod.body(0)));
-        Check.costs("a call of nothing", empty, 1, 1);
         int[] twice = Mod.module(Mod.types(Mod.type(0, 1)), Mod.functions(0, 0), Mod.code(
             Mod.body(1, Mod.b(2, 64, 65, 1, 4, 64, 16, 1, 33, 0, 12, 1, 11, 0, 11, 32, 0, 16, 1, 106)),
             Mod.body(2, Mod.b(2, 127, 32, 1, 65, 21, 34, 1, 106, 11))));
@@ -209,58 +228,5 @@ public final class RunTest {
         int[] trapInside = Mod.module(Mod.types(Mod.type(0, 1)), Mod.functions(0, 0),
             Mod.code(Mod.body(0, Mod.b(16, 1)), Mod.body(0, Mod.b(65, 7, 0))));
         Check.ends("a trap in a call ends all", trapInside, UNREACHABLE, 0);
-        int[] endless = Mod.module(Mod.types(Mod.type(0, 0)), Mod.functions(0), Mod.code(Mod.body(0, Mod.b(16, 0))));
-        Check.costs("calls without end", endless, CALLS, 8);
-    }
-
-    private static void fuel() {
-        Check.ends("nothing returned", Mod.single(1, 0, 0), 1, 0, 9);
-        Check.costs("nothing", Mod.single(0, 0, 0), 1, 0);
-        Check.costs("nop", Mod.single(0, 0, 0, Mod.b(1)), 1, 1);
-        Check.costs("a block of nothing", Mod.single(0, 0, 0, Mod.b(2, 64, 11)), 1, 1);
-        Check.costs("blocks of nothing", Mod.single(0, 0, 0, Mod.b(2, 64, 3, 64, 2, 64, 11, 11, 11)), 1, 3);
-        Check.costs("if of nothing", Mod.single(1, 0, 0, Mod.b(32, 0, 4, 64, 5, 11)), 1, 2, 1);
-        Check.costs("else of nothing", Mod.single(1, 0, 0, Mod.b(32, 0, 4, 64, 5, 11)), 1, 2, 0);
-        int[] choose = Mod.single(1, 1, 0, Mod.b(32, 0, 4, 127, 1, 1, 65, 1, 5, 65, 2, 11));
-        Check.costs("if", choose, 1, 5, 1);
-        Check.costs("else", choose, 1, 3, 0);
-        Check.costs("a value", Mod.single(0, 1, 0, Mod.b(65, 1)), 1, 1);
-        Check.costs("return", Mod.single(0, 1, 0, Mod.b(65, 1, 15)), 1, 2);
-        Check.costs("br_table counts 1", Mod.single(0, 0, 0, Mod.b(2, 64, 65, 1, 14, 2, 0, 0, 1, 11)), 1, 3);
-        Check.costs("a loop counts once", Mod.single(1, 0, 0,
-            Mod.b(3, 64, 32, 0, 65, 1, 107, 34, 0, 13, 0, 11)), 1, 1 + 5 * 7, 7);
-        Check.costs("else in else, at an end of both", Mod.single(1, 0, 0,
-            Mod.b(32, 0, 4, 64, 32, 0, 4, 64, 1, 5, 1, 11, 5, 11)), 1, 5, 1);
-    }
-
-    private static void fuelOfTraps() {
-        Check.costs("unreachable", Mod.single(0, 0, 0, Mod.b(0)), UNREACHABLE, 1);
-        Check.costs("a division", Mod.single(0, 1, 0, Mod.b(65, 1, 65, 0, 109)), ZERO, 3);
-        WasmMachine machine = Check.ready("behind a trap", Mod.single(0, 0, 0, Mod.b(65, 77, 36, 0, 0)));
-        Check.start("behind a trap", machine, 0, 0);
-        Check.due("behind a trap: run(2)", machine.run(2), 0);
-        Check.due("behind a trap: run(0)", machine.run(0), 0);
-        Check.due("behind a trap: run(1)", machine.run(1), UNREACHABLE);
-        Check.due("behind a trap: run", machine.run(1), -1);
-        Check.due("behind a trap: arg", machine.arg(1), true);
-    }
-
-    private static void longRuns() {
-        int[] endless = Mod.single(0, 0, 0, Mod.b(3, 64, 12, 0, 11));
-        int[] counting = Mod.single(1, 0, 0, Mod.b(3, 64, 32, 0, 65, 1, 107, 34, 0, 13, 0, 11));
-        for (int engine = 0; engine < 2; engine++) {
-            WasmMachine machine = Check.ready("endless", endless);
-            Check.start("endless", machine, 0, engine);
-            for (int i = 0; i < 5; i++) {
-                Check.due("endless: run", machine.run(MAX), 0);
-            }
-            machine = Check.ready("counting", counting);
-            Check.start("counting", machine, 0, engine, 20000);
-            Check.due("counting: more than 100000 are 100000", machine.run(100001), 0);
-            Check.due("counting: one is left", machine.run(1), 1);
-            Check.start("counting", machine, 0, engine, 20000);
-            Check.due("counting: 99999", machine.run(99999), 0);
-            Check.due("counting: two are left", machine.run(2), 1);
-        }
     }
 }
