@@ -276,8 +276,12 @@ public final class MalformedTest {
         Check.loads("an if without end", MALFORMED, inBody(0, 65, 0, 4, 64, 5, 11));
         Check.loads("a block with its end", 0, inBody(0, 2, 64, 11, 11));
         Check.loads("a number that looks like the end", MALFORMED, inBody(0, 65, 11));
-        Check.loads("a body that ends where the next one begins", MALFORMED,
+        Check.loads("a body that says too little", MALFORMED,
             m(TYPE, Mod.functions(0, 0), Mod.section(10, Mod.b(2, 1, 0, 11, 2, 0, 11))));
+        Check.loads("a body that says so much that the next one lies in it", MALFORMED,
+            m(TYPE, Mod.functions(0, 0), Mod.section(10, Mod.b(2, 5, 0, 11, 2, 0, 11))));
+        Check.loads("two bodies that say it rightly", 0,
+            m(TYPE, Mod.functions(0, 0), Mod.section(10, Mod.b(2, 2, 0, 11, 2, 0, 11))));
     }
 
     private static void elses() {

@@ -27,6 +27,10 @@ public final class MemoryTest {
                 Check.due(pages + " pages: peekMem(" + at + ")", machine.peekMem(at), at < 64 * pages ? 0 : -1);
             }
         }
+        Check.loads("five pages", 2, Mod.module(Mod.memory(5)));
+        for (int engine = 0; engine < 2; engine++) {
+            grow("a fifth page", Check.ready("a fifth page", growing(Mod.memory(4, 9))), engine, 1, -1, 4);
+        }
     }
 
     private static void dataAsTheySay() {

@@ -16,6 +16,13 @@ public final class PromisesTest {
     private static final int TRAP = 3;
     private static final int NOTHING = 4;
 
+    /** Has some of all that a load fills: types, functions, memory, globals, exports, blocks of all kinds, tables, data. */
+    private static final int[][] RICH = {Mod.types(Mod.type(1, 1), Mod.type(0, 0)), Mod.functions(0, 1), Mod.memory(1, 2),
+        Mod.globals(Mod.global(1, 3), Mod.global(0, 4)), Mod.exports(Mod.export("f", 0, 0), Mod.export("g", 3, 1)),
+        Mod.code(Mod.body(1, Mod.b(2, 64, 3, 64, 32, 0, 4, 64, 32, 0, 14, 3, 2, 0, 2, 2, 5, 65, 8, 33, 1, 11,
+            32, 1, 65, 5, 106, 33, 1, 11, 11, 32, 0, 4, 127, 16, 1, 65, 6, 5, 65, 7, 11, 32, 1, 106, 35, 1, 106)), Mod.body(0)),
+        Mod.data(Mod.dataAt(2, 9))};
+
     public static void main(String[] args) {
         aNewObject();
         feedOfAByteMore();
@@ -25,7 +32,9 @@ public final class PromisesTest {
         loadOfNothing();
         loadTellsWhyNot();
         loadCollectsOn();
+        loadAfterEachByte();
         loadAfterLoadsThatWereRefused();
+        loadWithoutWhatWasThereBefore();
         loadWhenItDoesNotCollect();
         compileWhenNothingIsLoaded();
         compileWhileSomethingRuns();
@@ -218,32 +227,81 @@ public final class PromisesTest {
         Check.due("its function", machine.start(0, 0), 0);
     }
 
-    private static void loadAfterLoadsThatWereRefused() {
+    /** It answers as a new object does that is loaded with the same at once. */
+    private static void isLoadedWithRich(String what, WasmMachine machine) {
+        Check.due(what + ": load", machine.load(), 0);
+        Check.due(what + ": no function more", machine.start(2, 0), 2);
+        Check.due(what + ": its data", machine.peekMem(2), 9);
+        Check.due(what + ": its page", machine.peekMem(64), -1);
+        for (int engine = 0; engine < 2; engine++) {
+            machine.compile();
+            Check.due(what + ": with 0", finish(machine, 0, engine, 0), 1);
+            Check.due(what + ": result", machine.result(), 24);
+            Check.due(what + ": with 3", finish(machine, 0, engine, 3), 1);
+            Check.due(what + ": result", machine.result(), 10);
+            Check.due(what + ": with 1", finish(machine, 0, engine, 1), 1);
+            Check.due(what + ": result", machine.result(), 15);
+        }
+        Check.due(what + ": rcodeLen", machine.rcodeLen(), 4 * 28);
+    }
+
+    private static void loadAfterEachByte() {
         Check.says("1 .. 4; then it collects on, behind what was fed");
-        int[] types = Mod.types(Mod.type(2, 1), Mod.type(0, 0), Mod.type(4, 1), Mod.type(0, 1));
-        int from = 8 + types.length + 1;
-        int data = Mod.data(Mod.dataAt(2, 9)).length;
+        int[] module = Mod.module(RICH);
+        int code = module.length - RICH[6].length;
         WasmMachine machine = new WasmMachine();
-        for (int i = 0; i < MODULE.length; i++) {
-            machine.feed(MODULE[i]);
-            if (i >= from && i < MODULE.length - data - 1) {
-                Check.due("load of " + (i + 1), machine.load(), 1);
+        for (int fed = 1; fed <= module.length; fed++) {
+            machine.feed(module[fed - 1]);
+            // At these places a module is whole.
+            if (fed != 8 && fed != 8 + RICH[0].length && fed != code && fed < module.length) {
+                Check.due("load of " + fed, machine.load(), 1);
             }
         }
-        Check.due("load of all", machine.load(), 0);
-        Check.due("compile", machine.compile(), 0);
-        WasmMachine other = Check.ready("all at once", MODULE);
-        Check.due("its register code", machine.rcodeLen(), other.rcodeLen());
-        Check.due("no function more", machine.start(5, 0), 2);
-        Check.due("a sum", finish(machine, SUM, 1, 20, 22), 1);
-        Check.due("a sum", machine.result(), 42);
-        Check.due("its data", machine.peekMem(2), 9);
-        machine = Check.fed(Mod.module(Mod.memory(2, 1)));
-        Check.due("load of what is INVALID", machine.load(), 3);
-        machine.reset();
-        Check.feed(machine, Mod.module());
-        Check.due("load of another", machine.load(), 0);
-        Check.due("it has no memory", machine.peekMem(0), -1);
+        isLoadedWithRich("after each byte", machine);
+    }
+
+    private static void loadAfterLoadsThatWereRefused() {
+        Check.says("why not (1 .. 4; then it collects on");
+        int[] blocks = Mod.repeat(10, 2, 64);
+        int[][] refused = {
+            Mod.module(Mod.cat(java.util.Arrays.copyOf(RICH, 6)), Mod.data(Mod.dataAt(64, 1))),
+            Mod.module(Mod.types(Mod.type(0, 0)), Mod.functions(0), Mod.code(Mod.body(0, blocks, Mod.b(26), Mod.repeat(10, 11)))),
+            Mod.module(Mod.types(Mod.type(0, 0)), Mod.functions(0), Mod.code(Mod.rawBody(Mod.b(0), blocks, Mod.b(2, 64)))),
+            Mod.module(Mod.types(Mod.type(0, 0)), Mod.functions(0), Mod.code(Mod.rawBody(Mod.b(0), blocks, Mod.b(5)))),
+            Mod.module(Mod.types(Mod.type(4, 2)), Mod.memory(4, 1), Mod.globals(Mod.global(0, 9), Mod.global(0, 9), Mod.global(0, 9)))};
+        int[] why = {4, 3, 2, 1, 3};
+        for (int i = 0; i < refused.length; i++) {
+            WasmMachine machine = Check.fed(refused[i]);
+            for (int n = 0; n < 60; n++) {
+                Check.due("load of " + i, machine.load(), why[i]);
+            }
+            machine.reset();
+            Check.feed(machine, Mod.module(RICH));
+            isLoadedWithRich("after " + i, machine);
+        }
+    }
+
+    private static void loadWithoutWhatWasThereBefore() {
+        Check.says("All as at first");
+        int[] before = Mod.cat(Mod.types(Mod.type(0, 0)), Mod.functions(0));
+        int[][] lacking = {
+            Mod.module(before, Mod.code(Mod.body(0, Mod.b(63, 0, 26)))), Mod.module(Mod.exports(Mod.export("m", 2, 0))),
+            Mod.module(Mod.data(Mod.dataAt(0))), Mod.module(before, Mod.code(Mod.body(0, Mod.b(35, 0, 26)))),
+            Mod.module(Mod.functions(0), Mod.code(Mod.body(0))), Mod.module(Mod.exports(Mod.export("x", 3, 1))),
+            Mod.module(before, Mod.code(Mod.body(0, Mod.b(16, 1)))), Mod.module(before, Mod.code(Mod.body(0, Mod.b(32, 0, 26))))};
+        int[] wrong = Mod.module(Mod.cat(java.util.Arrays.copyOf(RICH, 6)), Mod.data(Mod.dataAt(64, 1)));
+        for (int i = 0; i < lacking.length; i++) {
+            WasmMachine machine = Check.fed(Mod.module(RICH));
+            Check.due("load", machine.load(), 0);
+            machine.reset();
+            Check.feed(machine, lacking[i]);
+            Check.due("lacking " + i + ", behind a load", machine.load(), 3);
+            machine = Check.fed(wrong);
+            Check.due("load", machine.load(), 4);
+            machine.reset();
+            Check.feed(machine, lacking[i]);
+            Check.due("lacking " + i + ", behind a load that was refused", machine.load(), 3);
+        }
     }
 
     private static void loadWhenItDoesNotCollect() {

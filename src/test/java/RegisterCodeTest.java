@@ -207,6 +207,9 @@ public final class RegisterCodeTest {
             code(count + " arguments", Mod.module(Mod.types(Mod.type(0, 0), Mod.type(count, 0)), Mod.functions(0, 1),
                 Mod.code(Mod.body(0, Mod.repeat(count, 65, 7), Mod.b(16, 1)), Mod.body(0))),
                 arguments, e(16, count, count + 2, count), e(11, 0, 0, 0), e(11, count, 0, 0));
+            code(count + " arguments and a result", Mod.module(Mod.types(Mod.type(0, 1), Mod.type(count, 1)), Mod.functions(0, 1),
+                Mod.code(Mod.body(0, Mod.repeat(count, 65, 7), Mod.b(16, 1)), Mod.body(2, Mod.b(0)))),
+                arguments, e(16, count, count + 2, count), e(11, 1, 0, 1), e(0, count + 2, 0, 0), e(11, count + 3, 0, 1));
         }
     }
 
@@ -330,6 +333,9 @@ public final class RegisterCodeTest {
             Mod.b(65, 8, 2, 64, 65, 7, 3, 64, 65, 6, 65, 5, 14, 2, 2, 1, 0, 11, 26, 11, 26)),
             e(65, 1, 8, 0), e(2, 2, 0, 0), e(65, 2, 7, 0), e(3, 3, 0, 0), e(65, 3, 6, 0), e(65, 4, 5, 0), e(14, 5, 2, 0),
             e(12, 4, 12, 2), e(12, 4, 11, 4), e(12, 4, 4, 6), e(26, 3, 0, 0), e(26, 2, 0, 0), e(11, 1, 0, 0));
+        code("two tables", Mod.single(0, 0, 0, Mod.b(2, 64, 65, 0, 14, 2, 0, 1, 0, 11, 2, 64, 65, 0, 14, 1, 1, 0, 11)),
+            e(2, 0, 0, 0), e(65, 0, 0, 0), e(14, 1, 2, 0), e(12, 0, 6, 0), e(12, 0, 11, 0), e(12, 0, 6, 0),
+            e(2, 0, 0, 0), e(65, 0, 0, 0), e(14, 1, 1, 0), e(12, 0, 11, 0), e(12, 0, 11, 0), e(11, 0, 0, 0));
         code("the last alone", Mod.single(0, 0, 0, Mod.b(3, 64, 65, 0, 14, 0, 0, 11)),
             e(3, 0, 0, 0), e(65, 0, 0, 0), e(14, 1, 0, 0), e(12, 0, 1, 0), e(11, 0, 0, 0));
     }

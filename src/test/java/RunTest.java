@@ -11,6 +11,7 @@ public final class RunTest {
         divisions();
         locals();
         variables();
+        nothingElse();
         control();
         deepest();
         tables();
@@ -63,6 +64,20 @@ public final class RunTest {
             two(108, a, b, a * b);
         }
         two(108, 123456789, 987654321, 123456789 * 987654321);
+        int[] numbers = {0, 1, -1, 2, -2, 7, 31, 32, 33, -31, -32, 64, MIN, MAX, MIN + 1, 0x12345678, 0x80000001, 0xF0F0F0F0};
+        for (int a : numbers) {
+            for (int b : numbers) {
+                two(113, a, b, ~(~a | ~b));
+                two(114, a, b, ~(~a & ~b));
+                two(115, a, b, (a | b) - (a & b));
+                long power = 1L << Math.floorMod(b, 32);
+                two(116, a, b, (int) (a * power));
+                two(117, a, b, (int) Math.floorDiv((long) a, power));
+                two(118, a, b, (int) ((a & 0xFFFFFFFFL) / power));
+                two(119, a, b, Integer.rotateLeft(a, b));
+                two(120, a, b, Integer.rotateRight(a, b));
+            }
+        }
         two(113, 12, 10, 8);
         two(114, 12, 10, 14);
         two(115, 12, 10, 6);
@@ -94,6 +109,17 @@ public final class RunTest {
         two(111, MIN, -1, 0);
         two(112, -1, 10, 5);
         two(112, MIN, -1, MIN);
+        int[] numbers = {1, -1, 2, -2, 3, 7, -7, 10, MIN, MAX, MIN + 1, 0x12345678};
+        for (int a : numbers) {
+            for (int b : numbers) {
+                if (a != MIN || b != -1) {
+                    two(109, a, b, (int) ((long) a / b));
+                }
+                two(110, a, b, Integer.divideUnsigned(a, b));
+                two(111, a, b, (int) ((long) a % b));
+                two(112, a, b, Integer.remainderUnsigned(a, b));
+            }
+        }
     }
 
     private static void locals() {
@@ -141,6 +167,61 @@ public final class RunTest {
             Check.start("a global goes on", machine, 0, i & 1);
             Check.due("a global goes on: run", machine.run(50), 1);
             Check.due("a global goes on: result", machine.result(), i);
+        }
+    }
+
+    /** One instruction, with two locals and an operand below it that are 1, as are its own operands. */
+    private static void alone(int op, int takes, int gives, int result, int... bytes) {
+        int[] sum = Mod.b(65, 10, 108, 106, 32, 0, 65, 228, 0, 108, 106, 32, 1, 65, 232, 7, 108, 106);
+        int[] module = Mod.module(Mod.types(Mod.type(2, 1), Mod.type(0, 1)), Mod.functions(0, 1), Mod.memory(1, 3),
+            Mod.globals(Mod.global(1, 1)), Mod.code(
+                Mod.body(0, Mod.b(65, 1), Mod.repeat(takes, 65, 1), bytes, gives == 1 ? Mod.b() : Mod.b(65, 0), sum),
+                Mod.body(0, Mod.b(35, 0, 63, 0, 65, 10, 108, 106))));
+        Check.returns("only its own: " + op, module, 1101 + 10 * result, 1, 1);
+        int pages = op == 64 ? 2 : 1;
+        for (int engine = 0; engine < 2; engine++) {
+            WasmMachine machine = Check.ready("only its own: " + op, module);
+            Check.start("only its own: " + op, machine, 0, engine, 1, 1);
+            Check.due("only its own: run", machine.run(50), 1);
+            Check.start("only its own: " + op, machine, 1, engine);
+            Check.due("only its own: run", machine.run(50), 1);
+            Check.due(op + " leaves the global and the pages", machine.result(), 1 + 10 * pages);
+            for (int at = 0; at < 8; at++) {
+                Check.due(op + " leaves byte " + at, machine.peekMem(at), op >= 54 && op <= 59 && at == 1 ? 1 : 0);
+            }
+        }
+    }
+
+    private static void nothingElse() {
+        Check.says("as the specification has it; fuel");
+        alone(1, 0, 0, 0, 1);
+        alone(26, 1, 0, 0, 26);
+        alone(27, 3, 1, 1, 27);
+        alone(32, 0, 1, 1, 32, 0);
+        alone(33, 1, 0, 0, 33, 1);
+        alone(34, 1, 1, 1, 34, 1);
+        alone(35, 0, 1, 1, 35, 0);
+        alone(36, 1, 0, 0, 36, 0);
+        for (int op : new int[] {40, 44, 45, 46, 47}) {
+            alone(op, 1, 1, 0, op, 0, 0);
+        }
+        for (int op : new int[] {54, 58, 59}) {
+            alone(op, 2, 0, 0, op, 0, 0);
+        }
+        alone(63, 0, 1, 1, 63, 0);
+        alone(64, 1, 1, 1, 64, 0);
+        alone(65, 0, 1, 5, 65, 5);
+        int[] results = {1, 0, 0, 0, 0, 0, 1, 1, 1, 1};
+        for (int op = 70; op <= 79; op++) {
+            alone(op, 2, 1, results[op - 70], op);
+        }
+        alone(69, 1, 1, 0, 69);
+        alone(103, 1, 1, 31, 103);
+        alone(104, 1, 1, 0, 104);
+        alone(105, 1, 1, 1, 105);
+        int[] others = {2, 0, 1, 1, 1, 0, 0, 1, 1, 0, 2, 0, 0, 2, MIN};
+        for (int op = 106; op <= 120; op++) {
+            alone(op, 2, 1, others[op - 106], op);
         }
     }
 
@@ -207,6 +288,12 @@ public final class RunTest {
         Check.returns("the eighth place", eight, 10, 7);
         Check.returns("behind eight places", eight, 20, 8);
         Check.returns("no places", Mod.single(1, 1, 0, Mod.b(65, 7, 32, 0, 14, 0, 0)), 7, 5);
+        int[] tables = Mod.single(2, 1, 1, Mod.b(2, 64, 2, 64, 32, 0, 14, 1, 0, 1, 11, 65, 10, 33, 2, 11,
+            2, 64, 2, 64, 32, 1, 14, 1, 1, 0, 11, 65, 5, 32, 2, 106, 33, 2, 11, 32, 2));
+        Check.returns("two tables, 0 and 0", tables, 10, 0, 0);
+        Check.returns("two tables, 0 and 1", tables, 15, 0, 1);
+        Check.returns("two tables, 1 and 0", tables, 0, 1, 0);
+        Check.returns("two tables, 1 and 1", tables, 5, 1, 1);
     }
 
     private static void calls() {
@@ -225,6 +312,12 @@ public final class RunTest {
             Mod.body(1, Mod.b(2, 64, 65, 1, 4, 64, 16, 1, 33, 0, 12, 1, 11, 0, 11, 32, 0, 16, 1, 106)),
             Mod.body(2, Mod.b(2, 127, 32, 1, 65, 21, 34, 1, 106, 11))));
         Check.returns("locals are 0 in each call, and blocks go on behind it", twice, 42);
+        int[] others = Mod.module(Mod.types(Mod.type(1, 1), Mod.type(0, 0)), Mod.functions(0, 0, 1), Mod.globals(Mod.global(1, 0)),
+            Mod.code(Mod.body(1, Mod.b(65, 228, 0, 32, 0, 16, 1, 34, 1, 106, 16, 2, 32, 1, 106, 35, 0, 106)),
+                Mod.body(1, Mod.b(2, 64, 32, 0, 4, 64, 65, 7, 15, 11, 65, 9, 12, 1, 11, 65, 11)),
+                Mod.body(0, Mod.b(65, 3, 36, 0, 2, 64, 15, 11, 65, 4, 36, 0))));
+        Check.returns("return from a call, and what stands behind it", others, 117, 1);
+        Check.returns("br from a call, and what stands behind it", others, 121, 0);
         int[] trapInside = Mod.module(Mod.types(Mod.type(0, 1)), Mod.functions(0, 0),
             Mod.code(Mod.body(0, Mod.b(16, 1)), Mod.body(0, Mod.b(65, 7, 0))));
         Check.ends("a trap in a call ends all", trapInside, UNREACHABLE, 0);
