@@ -35,6 +35,7 @@ public final class PromisesTest {
         loadAfterEachByte();
         loadAfterLoadsThatWereRefused();
         loadWithoutWhatWasThereBefore();
+        loadWithoutTheMemoryThatWasThereBefore();
         loadWhenItDoesNotCollect();
         compileWhenNothingIsLoaded();
         compileWhileSomethingRuns();
@@ -301,6 +302,23 @@ public final class PromisesTest {
             machine.reset();
             Check.feed(machine, lacking[i]);
             Check.due("lacking " + i + ", behind a load that was refused", machine.load(), 3);
+        }
+    }
+
+    private static void loadWithoutTheMemoryThatWasThereBefore() {
+        Check.says("-1 if there is none such, or nothing is loaded");
+        int[][] before = {Mod.module(Mod.memory(4)), Mod.module(Mod.memory(2, 1)), Mod.module(Mod.memory(4), Mod.data(Mod.dataAt(300, 1)))};
+        int[] answers = {0, 3, 4};
+        int[][] without = {Mod.module(), Mod.module(Mod.vector(5)), Mod.module(Mod.memory(0))};
+        for (int i = 0; i < before.length; i++) {
+            for (int[] module : without) {
+                WasmMachine machine = Check.fed(before[i]);
+                Check.due("load with a memory", machine.load(), answers[i]);
+                machine.reset();
+                Check.feed(machine, module);
+                Check.due("load without it, behind " + answers[i], machine.load(), 0);
+                Check.due("no byte is left of it", machine.peekMem(0), -1);
+            }
         }
     }
 
