@@ -14,6 +14,7 @@ public final class RegisterCodeTest {
         constants();
         indicesAndOffsets();
         calls();
+        argumentsOfCalls();
         branches();
         ifs();
         elses();
@@ -198,6 +199,9 @@ public final class RegisterCodeTest {
         code("calls", module, e(65, 1, 1, 0), e(65, 2, 2, 0), e(16, 3, 6, 2), e(26, 2, 0, 0), e(16, 1, 9, 0), e(11, 1, 0, 0),
             e(32, 2, 1, 0), e(15, 3, 0, 1), e(11, 3, 0, 1),
             e(16, 0, 0, 0), e(3, 0, 0, 0), e(12, 0, 11, 0), e(11, 0, 0, 0));
+    }
+
+    private static void argumentsOfCalls() {
         Check.says("call: how many arguments");
         for (int count = 0; count <= 4; count++) {
             int[] arguments = new int[0];
