@@ -19,6 +19,7 @@ public final class BodiesTest {
         moreThanSixteen();
         whatGivesNoMoreThanItTakes();
         asThere();
+        resultsAsThere();
         foundFirst();
         Check.finish();
     }
@@ -293,6 +294,22 @@ public final class BodiesTest {
         }
         deep("br_if gives again what was not there", UNSUPPORTED, 16, Mod.cat(Mod.b(2, 127, 0, 13, 0, 11), drops(17)));
         deep("br takes what is not there", 0, 15, Mod.cat(Mod.b(2, 127, 0, 12, 0, 11), drops(16)));
+    }
+
+    /** What leads to the body, which has a result, from a block on sixteen operands, where that result is not there. */
+    private static void resultsAsThere() {
+        Check.says("those that it takes as there behind an instruction that leads away are not on it");
+        int[][] takers = {{12, 1}, {14, 0, 1}, {14, 2, 1, 1, 1}, {15}};
+        int[] before = Mod.cat(Mod.types(Mod.type(0, 1)), Mod.functions(0));
+        for (int[] taker : takers) {
+            int[] block = Mod.cat(Mod.b(2, 64, 0), taker, taker, Mod.b(11));
+            Check.loads("a result that is not there, on sixteen: " + taker[0], 0,
+                Mod.module(before, Mod.code(Mod.body(0, Mod.repeat(16, 65, 1), block, drops(15)))));
+            Check.loads("a result that is there, on sixteen: " + taker[0], UNSUPPORTED,
+                Mod.module(before, Mod.code(Mod.body(0, Mod.repeat(16, 65, 1), Mod.b(2, 64, 0, 65, 1), taker, Mod.b(11), drops(15)))));
+        }
+        Check.loads("br_if gives a result again that was not there, on sixteen", UNSUPPORTED,
+            Mod.module(before, Mod.code(Mod.body(0, Mod.repeat(16, 65, 1), Mod.b(2, 64, 0, 13, 1, 26, 11), drops(15)))));
     }
 
     private static void foundFirst() {
